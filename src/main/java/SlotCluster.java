@@ -541,7 +541,7 @@ public final class SlotCluster {
         }
 
         private void leave(int k) {
-            members = without(members, k);
+            members &= ~(1 << k);
         }
 
         void correctClock() {
