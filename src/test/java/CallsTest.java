@@ -31,31 +31,6 @@ public final class CallsTest {
         CHECKS.due(call, got, want);
     }
 
-    private static SlotCluster allOn(int n) {
-        SlotCluster x = new SlotCluster(n);
-        for (int k = 0; k < x.nodes(); k++) {
-            due("on(" + k + ", 0)", x.on(k, 0), true);
-        }
-        return x;
-    }
-
-    /** Four nodes in slot 21, all ACTIVE with MEMBERS 15, TIME 4 and TURN 1. */
-    private static SlotCluster fourUnited() {
-        SlotCluster x = allOn(4);
-        due("run(21)", x.run(21), 6);
-        return x;
-    }
-
-    /** Node 0 alone among four is FROZEN from slot 44 on. */
-    private static SlotCluster loneFrozen(int rate) {
-        SlotCluster x = new SlotCluster(4);
-        x.on(0, rate);
-        x.run(40);
-        x.run(4);
-        due("lone node: mode(0)", x.mode(0), 5);
-        return x;
-    }
-
     private static void promise1NewObject() {
         for (int n : new int[] {Integer.MIN_VALUE, -1, 0, 3, 4, 5, 6, 7, Integer.MAX_VALUE}) {
             SlotCluster x = new SlotCluster(n);
@@ -68,7 +43,7 @@ public final class CallsTest {
             due("new: united", x.united(), false);
             due("new: run(40)", x.run(40), 0);
         }
-        SlotCluster x = allOn(4);
+        SlotCluster x = Scenes.allOn(4);
         due("new: mute, was not muted", x.mute(0), true);
         due("new: deafen, was not deaf", x.deafen(0), true);
     }
@@ -107,13 +82,13 @@ public final class CallsTest {
         SlotCluster six = new SlotCluster(6);
         due("on(5, 0) of six", six.on(5, 0), true);
         due("patience(5) of six", six.patience(5), 17 * 4 + 3);
-        SlotCluster frozen = loneFrozen(0);
+        SlotCluster frozen = Scenes.loneFrozen(0);
         due("on of a frozen node", frozen.on(0, 0), false);
-        due("on of a united node", fourUnited().on(0, 0), false);
+        due("on of a united node", Scenes.united(4).on(0, 0), false);
     }
 
     private static void promise4Off() {
-        SlotCluster x = fourUnited();
+        SlotCluster x = Scenes.united(4);
         for (int node : NO_NODES_OF_4) {
             due("off, no such node", x.off(node), false);
         }
@@ -125,17 +100,17 @@ public final class CallsTest {
         due("on(2, 0)", x.on(2, 0), true);
         due("off: muted no more", x.mute(2), true);
         due("off: deaf no more", x.deafen(2), true);
-        SlotCluster silent = fourUnited();
+        SlotCluster silent = Scenes.united(4);
         silent.off(2);
         due("off: sends nothing", silent.run(1), 0);
         due("off: others strike it out", silent.members(0), 11);
-        SlotCluster frozen = loneFrozen(0);
+        SlotCluster frozen = Scenes.loneFrozen(0);
         due("off of a frozen node", frozen.off(0), true);
         due("off of a frozen node: mode", frozen.mode(0), 0);
     }
 
     private static void promise5Thaw() {
-        SlotCluster x = loneFrozen(2);
+        SlotCluster x = Scenes.loneFrozen(2);
         for (int node : NO_NODES_OF_4) {
             due("thaw, no such node", x.thaw(node), false);
         }
@@ -151,14 +126,14 @@ public final class CallsTest {
         due("thaw: still muted", x.mute(0), false);
         x.run(1);
         due("thaw: RATE stays", x.gap(0, 1), 90);
-        SlotCluster united = fourUnited();
+        SlotCluster united = Scenes.united(4);
         for (int k = 0; k < 4; k++) {
             due("thaw of an ACTIVE node", united.thaw(k), false);
         }
     }
 
     private static void promise6Mute() {
-        SlotCluster x = fourUnited();
+        SlotCluster x = Scenes.united(4);
         for (int node : NO_NODES_OF_4) {
             due("mute, no such node", x.mute(node), false);
         }
@@ -171,7 +146,7 @@ public final class CallsTest {
         due("the next frame comes through", x.run(1), 1);
         due("bus", x.bus(), 10);
         due("mute(2), muted no more", x.mute(2), true);
-        due("mute of a frozen node", loneFrozen(0).mute(0), true);
+        due("mute of a frozen node", Scenes.loneFrozen(0).mute(0), true);
         mutedAmidNoise();
     }
 
@@ -189,7 +164,7 @@ public final class CallsTest {
     }
 
     private static void promise7Deafen() {
-        SlotCluster x = fourUnited();
+        SlotCluster x = Scenes.united(4);
         for (int node : NO_NODES_OF_4) {
             due("deafen, no such node", x.deafen(node), false);
         }
@@ -200,13 +175,13 @@ public final class CallsTest {
         due("deaf: hears noise", x.counts(3), 3 * 1024 + 4);
         due("deaf: strikes the sender out", x.members(3), 11);
         due("deaf no more", x.deafen(3), true);
-        due("deafen of a frozen node", loneFrozen(0).deafen(0), true);
+        due("deafen of a frozen node", Scenes.loneFrozen(0).deafen(0), true);
         SlotCluster quiet = new SlotCluster(4);
         quiet.on(0, 0);
         quiet.deafen(0);
         quiet.run(3);
         due("deaf still when nothing was sent", quiet.deafen(0), false);
-        SlotCluster sender = fourUnited();
+        SlotCluster sender = Scenes.united(4);
         sender.deafen(2);
         sender.run(1);
         due("deaf still after its own frame", sender.deafen(2), false);
@@ -232,11 +207,11 @@ public final class CallsTest {
         due("shift(0, 7)", x.shift(0, 7), true);
         due("shift(1, -1000)", x.shift(1, -1000), true);
         due("gap", x.gap(0, 1), 2007);
-        due("shift of a frozen node", loneFrozen(0).shift(0, 5), true);
+        due("shift of a frozen node", Scenes.loneFrozen(0).shift(0, 5), true);
     }
 
     private static void promise9Run() {
-        SlotCluster x = allOn(4);
+        SlotCluster x = Scenes.allOn(4);
         for (int n : new int[] {-1, 41, Integer.MIN_VALUE, Integer.MAX_VALUE}) {
             due("run, wrong count", x.run(n), -1);
         }
@@ -260,7 +235,7 @@ public final class CallsTest {
     }
 
     private static void promise11Bus() {
-        SlotCluster x = allOn(4);
+        SlotCluster x = Scenes.allOn(4);
         int[] seen = {-1, -1, -1, -1, -1, -1, -1, 0, -1, -1, -1, -1, -1, -1, -1, -1, 1, 10, 11, 8, 9, 10};
         for (int i = 0; i < seen.length; i++) {
             x.run(1);
@@ -273,7 +248,7 @@ public final class CallsTest {
     }
 
     private static void promise12Mode() {
-        SlotCluster x = allOn(4);
+        SlotCluster x = Scenes.allOn(4);
         for (int node : NO_NODES_OF_4) {
             due("mode, no such node", x.mode(node), -1);
         }
@@ -291,11 +266,11 @@ public final class CallsTest {
         due("slot 18", x.mode(2), 3);
         x.off(2);
         due("off", x.mode(2), 0);
-        due("frozen", loneFrozen(0).mode(0), 5);
+        due("frozen", Scenes.loneFrozen(0).mode(0), 5);
     }
 
     private static void promises13To15Inside() {
-        SlotCluster x = allOn(4);
+        SlotCluster x = Scenes.allOn(4);
         for (int node : NO_NODES_OF_4) {
             due("members, no such node", x.members(node), -1);
             due("time, no such node", x.time(node), -1);
@@ -303,7 +278,7 @@ public final class CallsTest {
         }
         notInside("listening", x, 0);
         notInside("OFF", new SlotCluster(4), 0);
-        notInside("frozen", loneFrozen(0), 0);
+        notInside("frozen", Scenes.loneFrozen(0), 0);
         x.run(18);
         inside("COLD in slot 18", x, 1, new int[] {6, 8 + 2, 2 * 1024});
         inside("ACTIVE in slot 18", x, 2, new int[] {6, 8 + 2, 1025});
@@ -345,7 +320,7 @@ public final class CallsTest {
         due("patience of a COLD node", x.patience(2), -1);
         x.run(5);
         due("patience after the first try", x.patience(2), 12 * 4 + 2);
-        due("patience of a frozen node", loneFrozen(0).patience(0), -1);
+        due("patience of a frozen node", Scenes.loneFrozen(0).patience(0), -1);
     }
 
     private static void promise17Gap() {
@@ -367,7 +342,7 @@ public final class CallsTest {
         due("gap by the rates", x.gap(0, 1), -91);
         x.off(1);
         due("gap after off", x.gap(0, 1), 0);
-        SlotCluster frozen = loneFrozen(2);
+        SlotCluster frozen = Scenes.loneFrozen(2);
         frozen.on(1, 0);
         due("gap of a frozen node", frozen.gap(0, 1), 88);
         frozen.run(1);
@@ -375,7 +350,7 @@ public final class CallsTest {
     }
 
     private static void promise18United() {
-        SlotCluster x = allOn(4);
+        SlotCluster x = Scenes.allOn(4);
         x.run(17);
         due("united with no ACTIVE node", x.united(), false);
         x.run(1);

@@ -25,23 +25,8 @@ public final class SlotPartsTest {
         CHECKS.due(call, got, want);
     }
 
-    private static SlotCluster on(int n, int... nodes) {
-        SlotCluster x = new SlotCluster(n);
-        for (int node : nodes) {
-            CHECKS.due("on(" + node + ", 0)", x.on(node, 0), true);
-        }
-        return x;
-    }
-
-    /** Four nodes in slot 21, all ACTIVE with MEMBERS 15, TIME 4 and TURN 1. */
-    private static SlotCluster fourUnited() {
-        SlotCluster x = on(4, 0, 1, 2, 3);
-        x.run(21);
-        return x;
-    }
-
     private static void loneNodeTriesThreeTimes() {
-        SlotCluster x = on(4, 0);
+        SlotCluster x = Scenes.on(4, 0);
         int[][] slotModePatience = {
             {7, 1, 4 + 3}, {8, 2, -1}, {11, 2, -1}, {12, 1, 32 + 2}, {19, 1, 4 + 2}, {20, 2, -1}, {24, 1, 32 + 1},
             {32, 2, -1}, {36, 1, 32}, {43, 1, 4}, {44, 5, -1}, {60, 5, -1},
@@ -56,7 +41,7 @@ public final class SlotPartsTest {
     }
 
     private static void twoStartsAtOnce() {
-        SlotCluster x = on(4, 1);
+        SlotCluster x = Scenes.on(4, 1);
         x.run(1);
         x.on(0, 0);
         due("two starts: run(8)", x.run(8), 0);
@@ -79,7 +64,7 @@ public final class SlotPartsTest {
     }
 
     private static void coldNodeHearsNoise() {
-        SlotCluster x = on(4, 2);
+        SlotCluster x = Scenes.on(4, 2);
         x.run(2);
         x.on(1, 0);
         x.run(1);
@@ -94,7 +79,7 @@ public final class SlotPartsTest {
     }
 
     private static void coldNodeFreezes() {
-        SlotCluster x = on(4, 0, 1);
+        SlotCluster x = Scenes.on(4, 0, 1);
         x.deafen(1);
         x.run(8);
         due("slot 9: run(1)", x.run(1), 1);
@@ -107,7 +92,7 @@ public final class SlotPartsTest {
     }
 
     private static void listeningNodeIsDeaf() {
-        SlotCluster x = on(4, 0, 1);
+        SlotCluster x = Scenes.on(4, 0, 1);
         x.deafen(1);
         x.run(8);
         due("noise does not renew WAIT", x.patience(1), 4 + 3);
@@ -115,7 +100,7 @@ public final class SlotPartsTest {
     }
 
     private static void lateNodeComesIn() {
-        SlotCluster x = on(4, 0, 1, 2);
+        SlotCluster x = Scenes.on(4, 0, 1, 2);
         x.run(21);
         due("three: members(1)", x.members(1), 7);
         x.on(3, 0);
@@ -135,7 +120,7 @@ public final class SlotPartsTest {
     }
 
     private static void mutedNodeStepsBack() {
-        SlotCluster x = fourUnited();
+        SlotCluster x = Scenes.united(4);
         x.mute(2);
         x.run(1);
         due("slot 22: members(0)", x.members(0), 11);
@@ -157,7 +142,7 @@ public final class SlotPartsTest {
     }
 
     private static SlotCluster withSuspect() {
-        SlotCluster x = fourUnited();
+        SlotCluster x = Scenes.united(4);
         x.deafen(3);
         x.run(1);
         return x;
@@ -199,7 +184,7 @@ public final class SlotPartsTest {
     }
 
     private static void widestDeviation(int ticks, int members, int counts) {
-        SlotCluster x = fourUnited();
+        SlotCluster x = Scenes.united(4);
         x.shift(2, ticks);
         x.run(1);
         due("deviation " + ticks + ": members(0)", x.members(0), members);
@@ -207,7 +192,7 @@ public final class SlotPartsTest {
     }
 
     private static void clocksAreCorrected() {
-        SlotCluster x = fourUnited();
+        SlotCluster x = Scenes.united(4);
         x.shift(2, 60);
         x.run(5);
         due("slot 26: gap(2, 0)", x.gap(2, 0), 60);
@@ -219,7 +204,7 @@ public final class SlotPartsTest {
     }
 
     private static void meanIsCutTowardsZero() {
-        SlotCluster x = fourUnited();
+        SlotCluster x = Scenes.united(4);
         x.shift(2, -5);
         x.run(6);
         due("slot 27: gap(3, 0)", x.gap(3, 0), -2);
