@@ -7,20 +7,22 @@ public final class SentencesOfPromisesTest {
 
     public static void main(String[] args) {
         promise1();
-        promise2NodesN();
+        promise2IntNodesIsN();
         promise3();
         promise4();
         promise5();
         promise6();
         promise7();
-        promise8();
+        promise8SkewOfANodeGrowsByTicks();
         promise9();
         promise10HowManySlotsWentBy();
         promise11();
-        promise12();
-        promises13To15();
-        promise16();
-        promise17();
+        promise12TheModeOfANodeMinus1WhenThereIsNone();
+        promise13MembersOfANodeThatIsInside();
+        promise14TimeTimes8AndTurnOfANodeThatIsInside();
+        promise15AgreedTimes1024FailedTimes4AndAckOfANodeThatIsInside();
+        promise16WaitTimes4AndTriesOfANodeThatIsListen();
+        promise17SkewOfNodeALessThatOfNodeB();
         promise18();
         CHECKS.end();
     }
@@ -87,7 +89,7 @@ public final class SentencesOfPromisesTest {
         }
     }
 
-    private static void promise2NodesN() {
+    private static void promise2IntNodesIsN() {
         CHECKS.sentence("int nodes(): N.");
         for (int n = 4; n <= 6; n++) {
             SlotCluster x = Scenes.united(n);
@@ -358,7 +360,7 @@ public final class SentencesOfPromisesTest {
         }
     }
 
-    private static void promise8() {
+    private static void promise8SkewOfANodeGrowsByTicks() {
         CHECKS.sentence("SKEW of a node grows by ticks: true; false when there is none, it is OFF, or ticks is not"
             + " -1000 .. 1000");
         int[] taken = {-1000, -999, -1, 0, 1, 999, 1000};
@@ -491,7 +493,7 @@ public final class SentencesOfPromisesTest {
         }
     }
 
-    private static void promise12() {
+    private static void promise12TheModeOfANodeMinus1WhenThereIsNone() {
         CHECKS.sentence("The mode of a node; -1 when there is none.");
         SlotCluster x = Scenes.everyMode();
         int[] modes = {5, 0, 4, 2, 1, 3};
@@ -503,35 +505,49 @@ public final class SentencesOfPromisesTest {
         }
     }
 
-    private static void promises13To15() {
+    private static void promise13MembersOfANodeThatIsInside() {
+        CHECKS.sentence("MEMBERS of a node that is inside; -1 when there is none or it is not inside.");
         SlotCluster x = Scenes.everyMode();
         int[] members = {-1, -1, 40, 40, -1, 40};
-        int[] counts = {-1, -1, 2 * 1024, 2 * 1024, -1, 1024 + 1};
-        CHECKS.sentence("MEMBERS of a node that is inside; -1 when there is none or it is not inside.");
         for (int node = 0; node < 6; node++) {
             due("members(" + node + ") in mode " + x.mode(node), x.members(node), members[node]);
         }
         for (int node : noNodes(x)) {
             due("members(" + node + ")", x.members(node), -1);
         }
+    }
+
+    private static void promise14TimeTimes8AndTurnOfANodeThatIsInside() {
         CHECKS.sentence("TIME * 8 + TURN of a node that is inside; -1 when there is none or it is not inside.");
+        SlotCluster x = Scenes.everyMode();
+        x.run(1);
+        int[] times = {-1, -1, 4 * 8 + 1, 4 * 8 + 1, -1, 4 * 8 + 1};
         for (int node = 0; node < 6; node++) {
-            due("time(" + node + ") in mode " + x.mode(node), x.time(node), members[node] == -1 ? -1 : 3 * 8);
+            due("time(" + node + ") in mode " + x.mode(node), x.time(node), times[node]);
         }
         for (int node : noNodes(x)) {
             due("time(" + node + ")", x.time(node), -1);
         }
+    }
+
+    private static void promise15AgreedTimes1024FailedTimes4AndAckOfANodeThatIsInside() {
         CHECKS.sentence("AGREED * 1024 + FAILED * 4 + ACK of a node that is inside; -1 when there is none or it is not"
             + " inside.");
+        SlotCluster x = Scenes.everyMode();
+        int[] counts = {-1, -1, 2 * 1024, 2 * 1024, -1, 1024 + 1};
         for (int node = 0; node < 6; node++) {
             due("counts(" + node + ") in mode " + x.mode(node), x.counts(node), counts[node]);
         }
         for (int node : noNodes(x)) {
             due("counts(" + node + ")", x.counts(node), -1);
         }
+        SlotCluster y = Scenes.united(4);
+        y.deafen(3);
+        y.run(3);
+        due("AGREED 1, FAILED 1 and ACK 1: counts(3)", y.counts(3), 1024 + 4 + 1);
     }
 
-    private static void promise16() {
+    private static void promise16WaitTimes4AndTriesOfANodeThatIsListen() {
         CHECKS.sentence("WAIT * 4 + TRIES of a node that is LISTEN; -1 when there is none or it is not LISTEN.");
         SlotCluster x = Scenes.everyMode();
         for (int node = 0; node < 6; node++) {
@@ -546,7 +562,7 @@ public final class SentencesOfPromisesTest {
         due("the least there is, WAIT 1 and TRIES 0: patience(0)", last.patience(0), 4);
     }
 
-    private static void promise17() {
+    private static void promise17SkewOfNodeALessThatOfNodeB() {
         CHECKS.sentence("SKEW of node a less that of node b; 0 when there is no such node or one of them is OFF");
         SlotCluster x = Scenes.everyMode();
         int[] skews = {1000, 0, -1000, 7, -8, 100};
