@@ -626,7 +626,11 @@ public final class SentencesOfPromisesTest {
         due("a PASSIVE one has others: united()", passive.united(), true);
     }
 
-    /** No run that was tried has ACTIVE nodes of the same MEMBERS and other TURN or TIME: so this is put in. */
+    /**
+     * A node keeps another in its MEMBERS for N slots at most after a frame of it with the node's own TIME.
+     * So ACTIVE nodes of the same MEMBERS and another TIME must all have sent with both TIMEs within N slots.
+     * By reasoning no run of 512 calls comes to that, and searching found none: so it is put in.
+     */
     private static void allOfThemHaveTheSameTurnAndTime() {
         CHECKS.sentence("and all of them have the same .. TURN and TIME");
         for (int node = 0; node < 4; node++) {
